@@ -579,7 +579,10 @@ public final class BeltRounds {
             begin();
             boolean fits = true;
             for (int lines = 0; fits && lines < MOST_TOKENS && !sees(Sign.END); lines++) {
-                fits = readLine() && takes(Sign.SEMICOLON);
+                fits = takes(Sign.WRESTLER) ? readWrestler()
+                        : takes(Sign.POINTS) ? readPoints()
+                        : takes(Sign.RULE) && readRule();
+                fits = fits && takes(Sign.SEMICOLON);
             }
             if (!fits) {
                 error = NOT_A_TOURNAMENT;
@@ -603,16 +606,6 @@ public final class BeltRounds {
         // Each of the following returns false at the first token that cannot stand there;
         // then at is that token.
 
-        private boolean readLine() {
-            if (takes(Sign.WRESTLER)) {
-                return readWrestler();
-            }
-            if (takes(Sign.POINTS)) {
-                return readPoints();
-            }
-            return sees(Sign.RULE) && readRule();
-        }
-
         private boolean readWrestler() {
             if (!sees(Sign.NAME)) {
                 return false;
@@ -635,11 +628,11 @@ public final class BeltRounds {
         private void checkName() {
             for (int i = 0; i < wrestlers; i++) {
                 if (tape.sameText(names[i], at)) {
-                    noteError(NAME_TWICE);
+                    noteError(NAME_TWICE, at);
                 }
             }
             if (wrestlers == MOST_WRESTLERS) {
-                noteError(TOO_MANY);
+                noteError(TOO_MANY, at);
             }
         }
 
@@ -655,25 +648,27 @@ public final class BeltRounds {
 
         private boolean readRule() {
             if (rules.count == MOST_RULES) {
-                noteError(TOO_MANY);
+                noteError(TOO_MANY, at - 1);
             }
-            at++;
-            int outcome = sees(Sign.RED) ? RED_WINS : sees(Sign.BLUE) ? BLUE_WINS : DRAW;
-            if (outcome == DRAW) {
-                if (!takes(Sign.DRAW)) {
-                    return false;
-                }
-            } else {
-                at++;
-                if (!takes(Sign.WINS)) {
-                    return false;
-                }
-            }
-            if (takes(Sign.WHEN) && !readTest(0)) {
+            int outcome = readOutcome();
+            if (outcome == NOT_TOLD || takes(Sign.WHEN) && !readTest(0)) {
                 return false;
             }
             rules.endRule(outcome);
             return true;
+        }
+
+        /** Returns NOT_TOLD at the first token that cannot stand there. */
+        private int readOutcome() {
+            if (takes(Sign.DRAW)) {
+                return DRAW;
+            }
+            int outcome = sees(Sign.RED) ? RED_WINS : sees(Sign.BLUE) ? BLUE_WINS : NOT_TOLD;
+            if (outcome == NOT_TOLD) {
+                return NOT_TOLD;
+            }
+            at++;
+            return takes(Sign.WINS) ? outcome : NOT_TOLD;
         }
 
         private boolean readTest(int depth) {
@@ -867,17 +862,17 @@ public final class BeltRounds {
         private int takeNumber(int least, int most) {
             int number = tape.number(at);
             if (number < least || number > most) {
-                noteError(NUMBER_OUT_OF_RANGE);
+                noteError(NUMBER_OUT_OF_RANGE, at);
             }
             at++;
             return number;
         }
 
         /** Only the first one of these counts, and none if the tape is no tournament. */
-        private void noteError(int found) {
+        private void noteError(int found, int token) {
             if (error == 0) {
                 error = found;
-                errorAt = tape.start(at);
+                errorAt = tape.start(token);
             }
         }
     }

@@ -107,6 +107,14 @@ public final class LanguageTest {
         Check.same("pointsOf(0), a draw without rules and points", x.pointsOf(0), 1);
         Check.same("teach() of nothing", x.teach(), 0);
         Check.same("wrestlers()", x.wrestlers(), 0);
+        Check.teach(x, TWO + "wrestler c strength 1; rule red wins when 1 = 2;");
+        x.pairRound();
+        Check.same("restingOne()", x.restingOne(), 2);
+        Check.same("ruledOutcome(0)", x.ruledOutcome(0), 1);
+        Check.same("teach()", Check.teach(x, TWO + "wrestler c strength 1; rule red wins;"), 0);
+        Check.noState("restingOne(), nothing stays", () -> x.restingOne());
+        x.pairRound();
+        Check.same("ruledOutcome(0), nothing stays of the tests", x.ruledOutcome(0), 0);
     }
 
     private static void promise5ErrorAt() {
@@ -137,6 +145,11 @@ public final class LanguageTest {
         Check.taught("  \n \n");
         Check.taught("\nwrestler\na1b2c3d4e5\nstrength 000007 ;rule draw when 1<=2and[3>=2];points 1 2 3;");
         Check.taught("rule draw when 1<2and 3>2or not met;");
+        Check.taught("wrestler zaz0 strength 5; wrestler z9z strength 5; wrestler az strength 5;");
+        Check.error("wrestler ` strength 5;", 1, 9);
+        Check.error("wrestler { strength 5;", 1, 9);
+        Check.error("points 1 2 :;", 1, 11);
+        Check.error("points 1 2 .;", 1, 11);
         Check.error("\twrestler a strength 5;", 1, 0);
         Check.error("rule\rdraw;", 1, 4);
         Check.error("rule draw\u0000;", 1, 9);
@@ -170,6 +183,12 @@ public final class LanguageTest {
         Check.error("wrestler a strength 5 6;", 1, 22);
         Check.error("wrestler a strength -5;", 1, 20);
         Check.error("wrestler a 5;", 1, 11);
+        Check.error("wrestler;", 1, 8);
+        Check.error("wrestler a;", 1, 10);
+        Check.error("wrestler a strength;", 1, 19);
+        Check.error("points;", 1, 6);
+        Check.error("points 1;", 1, 8);
+        Check.error("rule;", 1, 4);
         Check.error("wrestler strength strength 5;", 1, 9);
         for (String keyword : ("wrestler strength points draw rest rule red blue wins when round won met belts "
                 + "floats not and or min max").split(" ")) {
@@ -196,6 +215,15 @@ public final class LanguageTest {
         Check.error("rule draw when met];", 1, 18);
         Check.error("rule draw when met and;", 1, 22);
         Check.error("rule draw when or met;", 1, 15);
+        Check.error("rule draw when met or;", 1, 21);
+        Check.error("rule draw when not;", 1, 18);
+        Check.error("rule draw when 1 =;", 1, 18);
+        Check.error("rule draw when 1 = 1 +;", 1, 22);
+        Check.error("rule draw when 1 = 1 /;", 1, 22);
+        Check.error("rule draw when 1 = -;", 1, 20);
+        Check.error("rule draw when 1 = (1;", 1, 21);
+        Check.error("rule draw when 1 = min(1,;", 1, 25);
+        Check.error("rule draw when 1 = won;", 1, 22);
         Check.error("rule draw when round red = 1;", 1, 21);
         Check.error("rule draw when points = 1;", 1, 22);
         Check.error("rule draw when points 1 = 1;", 1, 22);
@@ -416,6 +444,14 @@ public final class LanguageTest {
         test("not [" + yes + " or " + yes + "]", false);
         test("met", false);
         test("not met", true);
+        for (String right : new String[] {"1 = 1", "1 < 2", "2 > 1", "1 <= 1", "1 >= 1", "not met"}) {
+            test("not " + right, false);
+            for (String other : new String[] {"1 = 1", "1 < 2", "2 > 1", "1 <= 1", "1 >= 1", "not met"}) {
+                test(right + " and " + other, true);
+                test("not [" + right + " and " + other + "]", false);
+                test("not [" + right + " or " + other + "]", false);
+            }
+        }
     }
 
     private static void valuesOfBouts() {
@@ -423,7 +459,7 @@ public final class LanguageTest {
         test("round = 0 and points red = 0 and won blue = 0", true);
         test("belts red = 1 and belts blue = -1", true);
         test("floats red = 0 and floats blue = 0 and rest red = 0 and rest blue = 0", true);
-        // Behind a won bout; the second round is b against a again, and c rested once more or less.
+        // The second round is b against a again, who won the bout of the first one.
         BeltRounds x = Check.taught(TWO
                 + "rule red wins when round = 1 and met and won red = 0 and points red = 0 and won blue = 1"
                 + " and points blue = 4 and floats blue = 1 and floats red = 0 and belts red = 0 and belts blue = 0;"

@@ -265,7 +265,6 @@ public final class RoundsTest {
         bout(x, 0, 0, 1);
         each("beltsOf", x::beltsOf, 1, -1);
         // As many, one of them without a bout: who had the blue belt in the latest one has red.
-        // f rests ahead of its first bout.
         BeltRounds y = Check.taught(THREE);
         y.turnIn(2);
         y.pairRound();
@@ -274,7 +273,7 @@ public final class RoundsTest {
         y.pairRound();
         bout(y, 0, 0, 1);
         y.tell(0, 0);
-        // a is ahead with 3; b had blue; c had no bout and b is stronger.
+        // b has 1 point and had blue; c has none and had no bout.
         y.turnIn(2);
         y.turnIn(0);
         y.pairRound();
@@ -481,7 +480,7 @@ public final class RoundsTest {
     private static void pairing() {
         BeltRounds x = Check.taught("wrestler a strength 6; wrestler b strength 5; wrestler c strength 4;"
                 + "wrestler d strength 3; wrestler e strength 2; wrestler f strength 1;");
-        // ab cd ef; ac be df; ad bf ce; ae bd cf? (b: d, f met; e met) and so on, each one fitting.
+        // In the second round b cannot meet d, the farthest ahead: e and f have met.
         rivals(x, 1, 0, 3, 2, 5, 4);
         rivals(x, 2, 4, 0, 5, 1, 3);
         rivals(x, 3, 5, 4, 0, 2, 1);
@@ -495,8 +494,7 @@ public final class RoundsTest {
         }
         Check.same("nextRematches()", x.nextRematches(), 1);
         rivals(x, 1, 0);
-        // The fewest rematches go ahead of whom the first one meets: of a, b, c, d only c and d have
-        // not met elsewhere, so that a has to leave b to whom a could meet first.
+        // Those who have met only elsewhere, and one who rests in the midst of the line.
         BeltRounds y = Check.taught(FOUR);
         y.turnIn(1);
         y.turnIn(0);
@@ -507,6 +505,13 @@ public final class RoundsTest {
         Check.same("nextRematches()", y.nextRematches(), 0);
         Check.same("nextOpponentOf(2)", y.nextOpponentOf(2), 1);
         Check.same("nextOpponentOf(3)", y.nextOpponentOf(3), 0);
+        BeltRounds z = Check.taught("wrestler a strength 7; wrestler b strength 6; wrestler c strength 5;"
+                + "wrestler d strength 4; wrestler e strength 3; points 0 0 0;");
+        rivals(z, 1, 0, 3, 2, -1);
+        rivals(z, 2, 4, 0, -1, 1);
+        rivals(z, 4, 3, -1, 1, 0);
+        rivals(z, 3, -1, 4, 0, 2);
+        rivals(z, -1, 2, 1, 4, 3);
     }
 
     private static void rivals(BeltRounds x, int... due) {
