@@ -74,8 +74,8 @@ final class Check {
     /** Teaches a new object and asks for the error and its position. */
     static void error(String text, int error, int at) {
         BeltRounds x = new BeltRounds();
-        same("teach() of «" + text + "»", teach(x, text), error);
-        same("errorAt() of «" + text + "»", x.errorAt(), at);
+        same("teach() of '" + text + "'", teach(x, text), error);
+        same("errorAt() of '" + text + "'", x.errorAt(), at);
     }
 
     static void end(String test) {
