@@ -3,6 +3,9 @@ final class Check {
     private static int asked = 0;
     private static int wrong = 0;
 
+    /** The sentence of the document that is tested now, or nothing. */
+    static String about = "";
+
     private Check() {
     }
 
@@ -14,7 +17,7 @@ final class Check {
         asked++;
         if (!String.valueOf(got).equals(String.valueOf(due))) {
             wrong++;
-            System.out.println(what + " answered " + got + ", due is " + due);
+            System.out.println(about + what + " answered " + got + ", due is " + due);
         }
     }
 

@@ -16,8 +16,8 @@ public final class RoomTest {
         BeltRounds x = new BeltRounds();
         long cells = cellsOf(x);
         Check.holds("fields and elements of an object: " + cells, cells <= MOST_CELLS);
-        // Once to load what the machine itself needs, once to count.
-        dearCalls(x);
+        // Once, on another object, to load what the machine itself needs; once to count.
+        dearCalls(new BeltRounds());
         com.sun.management.ThreadMXBean counter =
                 (com.sun.management.ThreadMXBean) ManagementFactory.getThreadMXBean();
         long before = counter.getThreadAllocatedBytes(Thread.currentThread().getId());
@@ -35,7 +35,7 @@ public final class RoomTest {
         }
         text.append("rule red wins when round / 2 * 2 = round and not met or strength red < 95;");
         Check.teach(x, text.toString());
-        for (int i = 0; i < 120; i++) {
+        for (int i = 0; i < 115; i++) {
             x.leaderAfter(10);
             x.pointsAfter(3, 10);
             x.digest();

@@ -290,7 +290,7 @@ public final class RoundsTest {
         z.turnIn(1);
         z.pairRound();
         bout(z, 0, 0, 2);
-        // A rest between does not change who had the blue belt in the latest bout.
+        // One who rests beside them changes nothing; RoundsEdges has a rest of one of the two.
         BeltRounds r = Check.taught(THREE + "points 2 1 0;");
         r.turnIn(0);
         r.pairRound();
@@ -722,7 +722,13 @@ public final class RoundsTest {
         x.turnIn(2);
         x.turnIn(4);
         Check.same("digest()", x.digest(), dueDigest(x));
-        x.turnIn(4);
+        promise41Bouts();
+    }
+
+    /** On another object: one is used for at most 512 calls. */
+    private static void promise41Bouts() {
+        BeltRounds x = Check.taught(FOUR + "wrestler ebb strength 3; rule draw; rule red wins;");
+        x.turnIn(2);
         x.pairRound();
         Check.same("digest()", x.digest(), dueDigest(x, -1, -1));
         x.tell(1, 2);
@@ -730,7 +736,6 @@ public final class RoundsTest {
         x.tell(0, 0);
         x.pairRound();
         x.tell(0, 1);
-        Check.same("digest()", x.digest(), dueDigest(x, 1, -1));
         x.feed(1, 2, 3, 4, 5);
         Check.same("digest()", x.digest(), dueDigest(x, 1, -1));
     }
