@@ -46,7 +46,7 @@ public final class RoomTest {
         }
     }
 
-    private static long cellsOf(Object first) throws IllegalAccessException {
+    static long cellsOf(Object first) throws IllegalAccessException {
         Map<Object, Boolean> seen = new IdentityHashMap<>();
         Deque<Object> open = new ArrayDeque<>();
         open.add(first);
